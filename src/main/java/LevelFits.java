@@ -194,7 +194,7 @@ public final class LevelFits {
         return made;
     }
 
-    /** Rows that are as long as can be, the first one first, are also the fewest: a shorter row never has a greater LEVEL. */
+    /** Rows as long as can be, the first one first, are the fewest: no part of a row has a greater LEVEL than it. */
     private Fit partedFit(int degree, int p, int q, Points points) {
         Fit made = new Fit(fitCount, KIND_PIECES, degree, points.copy());
         int from = 0;
@@ -803,7 +803,7 @@ public final class LevelFits {
             boolean latestIsAbove = false;
             for (int i = 0; i < points.size && found <= freeNumbers(); i++) {
                 long miss = missAbove(i);
-                boolean turns = found == 0 || miss == 0 || miss > 0 != latestIsAbove;
+                boolean turns = found == 0 || miss == 0 || (miss > 0) != latestIsAbove;
                 if (Math.abs(miss) == level && turns) {
                     bits |= 1 << i;
                     found++;
@@ -910,8 +910,9 @@ public final class LevelFits {
             if (Math.abs(miss) <= lowAbove()) {
                 return false;
             }
-            // The i-th of the TURNS has the SIGN of the comer's MISS if i is as odd as this.
-            int parity = miss > 0 == missAbove(picks[0]) >= 0 ? 0 : 1;
+            // SIGNS take turns, so every other one is as that of the comer's MISS: from 0 on, or from 1 on.
+            boolean firstIsAbove = missAbove(picks[0]) >= 0;
+            int parity = firstIsAbove == (miss > 0) ? 0 : 1;
             int next = 0;
             while (next <= free && next < MOST_TURNS && picks[next] < comer) {
                 next++;
@@ -1072,7 +1073,7 @@ public final class LevelFits {
             }
         }
 
-        /** The level falls with c0 up to its least, stays there and grows: so the first c0 of no fall is sought by halves. */
+        /** The level falls as c0 grows, stays at its least and rises; the first c0 after which it does not fall. */
         private int leastC0(Points points, int most) {
             int from = -most;
             int to = most;
