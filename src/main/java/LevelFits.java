@@ -181,7 +181,11 @@ public final class LevelFits {
         return done(fitCount);
     }
 
+    /** While there is room for it. */
     private int keepFit(Fit made) {
+        if (fitCount >= MOST_FITS) {
+            return refuse(NO_ROOM);
+        }
         fits[fitCount] = made;
         fitCount++;
         return done(made.number);
@@ -604,8 +608,11 @@ public final class LevelFits {
             return false;
         }
 
-        /** For a place that it does not hold, while it is not full. */
+        /** For a place that it does not hold, while it is not full: how many there are then. */
         int insert(int place, int value, int weight) {
+            if (isFull()) {
+                return size;
+            }
             int at = size;
             for (; at > 0 && places[at - 1] > place; at--) {
                 move(at - 1, at);
@@ -617,7 +624,11 @@ public final class LevelFits {
             return size;
         }
 
+        /** For a POINT that it has: how many there are then. */
         int remove(int i) {
+            if (!has(i)) {
+                return size;
+            }
             for (int at = i + 1; at < size; at++) {
                 move(at, at - 1);
             }
@@ -948,7 +959,7 @@ public final class LevelFits {
             free = f.freeNumbers();
             squared = f.kind == KIND_EVEN;
             size = 0;
-            for (int i = from; i < to && i < f.points.size; i++) {
+            for (int i = from; i < to && f.points.has(i) && size < MOST_POINTS; i++) {
                 long place = f.points.places[i];
                 nodes[size] = squared ? place * place : place;
                 values[size] = f.points.values[i];

@@ -656,6 +656,10 @@ public final class PromisesTest {
         row(x, 4, 0, 7, 7, 7);
         x.line(4, 0);
         due("LOW 0 and nothing changes", x.swap(4, 5), 5);
+        row(x, 5, 0, 5, 5, 6);
+        x.line(5, 0);
+        due("LOW 0, above by 1", x.swap(5, 3), 6);
+        x.drop();
         due("no TURNS", x.swap(0, 7), -1);
         due("no such POINT", x.swap(0, 33), -1);
         due("below 0", x.swap(0, -1), -1);
