@@ -830,7 +830,7 @@ public final class LevelFits {
      * Its rows are made once and used again by all calls.
      */
     private static final class Leveller {
-        /** 12 times a MISS divided by any WEIGHT stays whole. */
+        /** Divided by any WEIGHT it is whole. */
         private static final int ALL_WEIGHTS = 12;
         private static final int MOST_TURNS = 4;
         /** LOW grows with each SWAP, so no TURNS come twice, and of 12 POINTS there are 495 TURNS at most. */
