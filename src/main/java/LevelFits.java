@@ -551,8 +551,9 @@ public final class LevelFits {
 
     /** The greatest common divisor of two numbers, 0 if both are 0. */
     private static long commonDivisor(long a, long b) {
-        long greater = Math.abs(a);
-        long less = Math.abs(b);
+        // Without a call: the longest chain of calls ends here, and it is as long as one may be.
+        long greater = a < 0 ? -a : a;
+        long less = b < 0 ? -b : b;
         // The rest halves at least every second step, so 64 bits need fewer than 200 steps.
         for (int step = 0; step < 200 && less != 0; step++) {
             long rest = greater % less;

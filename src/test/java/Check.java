@@ -1,11 +1,20 @@
 /** Counts answers against what is due and tells the outcome. */
 final class Check {
     private final String title;
+    private String test;
+    private int tests = 0;
     private int passed = 0;
     private int failed = 0;
 
     Check(String title) {
         this.title = title;
+        test = title;
+    }
+
+    /** A test of its own: what fails from now on is told under its name. */
+    void begin(String name) {
+        test = name;
+        tests++;
     }
 
     void due(String call, long got, long due) {
@@ -16,7 +25,7 @@ final class Check {
         failed++;
         // A broken program may fail thousands of times; the first rows are enough to find out why.
         if (failed <= 40) {
-            System.out.println(title + ": " + call + " answered " + got + ", due is " + due);
+            System.out.println(test + ": " + call + " answered " + got + ", due is " + due);
         }
     }
 
@@ -25,7 +34,8 @@ final class Check {
     }
 
     void end() {
-        System.out.println(title + ": " + passed + " answers as due, " + failed + " not");
+        String parts = tests == 0 ? "" : tests + " tests, ";
+        System.out.println(title + ": " + parts + passed + " answers as due, " + failed + " not");
         if (failed != 0) {
             System.exit(1);
         }

@@ -909,7 +909,6 @@ public final class PromisesTest {
 
     // Promise 30: 0 and 4
     private static void forgeKinds() {
-        LevelFits x = oneOfEachKind();
         // By FIT, then by the KIND that it is taken for.
         boolean[][] is = {
             {true, false, false, false, false},
@@ -919,6 +918,7 @@ public final class PromisesTest {
             {true, true, false, false, true}
         };
         for (int f = 0; f < 5; f++) {
+            LevelFits x = oneOfEachKind();
             for (int kind = 0; kind < 5; kind++) {
                 for (int n = kind - 100; n <= 100; n += 25) {
                     forgeKind(x, n, f, is[f][kind], f);
@@ -933,6 +933,7 @@ public final class PromisesTest {
                 refused(x, "forge(4, 0, " + f + ")", x.forge(4, 0, f), 14);
             }
         }
+        LevelFits x = oneOfEachKind();
         refused(x, "no such FIT", x.forge(0, 0, 5), 10);
         refused(x, "no such FIT, -1", x.forge(0, 0, -1), 10);
         isDone(x, "no such FIT in a row", x.forge(4, 0, 5), 0);

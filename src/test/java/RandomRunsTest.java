@@ -1,6 +1,4 @@
-import java.lang.reflect.Method;
 import java.util.ArrayList;
-import java.util.Arrays;
 import java.util.List;
 import java.util.Random;
 
@@ -49,21 +47,27 @@ public final class RandomRunsTest {
         new Shape("status", 6)
     };
 
+    /** A call of the run that is no question, to be made once more on another object. */
+    private record Made(String name, int[] numbers) {
+    }
+
     private final Random random;
-    private final LevelFits tested = new LevelFits();
     private final Reference reference = new Reference();
-    private final List<String> calls = new ArrayList<>();
+    private final List<Made> changes = new ArrayList<>();
     private final String run;
+    private LevelFits tested = new LevelFits();
+    private int callsOfTested = 0;
+    private int calls = 0;
 
     private RandomRunsTest(String run, long seed) {
         this.run = run;
         random = new Random(seed);
     }
 
-    public static void main(String[] args) throws Exception {
+    public static void main(String[] args) {
         for (int seed = 0; seed < 40; seed++) {
             RandomRunsTest test = new RandomRunsTest("seed " + seed, seed);
-            for (int i = 0; i < 450; i++) {
+            for (int i = 0; i < 600; i++) {
                 test.anyCall();
             }
             test.askAll();
@@ -74,7 +78,7 @@ public final class RandomRunsTest {
         CHECK.end();
     }
 
-    private void anyCall() throws Exception {
+    private void anyCall() {
         int sum = 0;
         for (Shape shape : SHAPES) {
             sum += shape.often();
@@ -121,7 +125,7 @@ public final class RandomRunsTest {
         numbers[1] = bits;
     }
 
-    private void fullSet(int seed) throws Exception {
+    private void fullSet(int seed) {
         int least = seed % 2 == 0 ? 0 : -12;
         int span = seed % 5 == 0 ? 60 : 1 + random.nextInt(9);
         boolean heavy = seed % 3 != 0;
@@ -149,7 +153,7 @@ public final class RandomRunsTest {
     }
 
     /** Every question about what stands, so that nothing has changed that should not have. */
-    private void askAll() throws Exception {
+    private void askAll() {
         for (int f = 0; f < 10; f++) {
             for (int what = 0; what < 5; what++) {
                 call("told", f, what);
@@ -185,20 +189,26 @@ public final class RandomRunsTest {
         call("status");
     }
 
-    private void call(String name, int... numbers) throws Exception {
-        Class<?>[] types = new Class<?>[numbers.length];
-        Object[] arguments = new Object[numbers.length];
-        for (int i = 0; i < numbers.length; i++) {
-            types[i] = int.class;
-            arguments[i] = numbers[i];
+    private void call(String name, int... numbers) {
+        if (callsOfTested + 2 > Face.MOST_CALLS) {
+            startAnew();
         }
-        String call = name + Arrays.toString(numbers);
-        calls.add(call);
-        Method inTested = LevelFits.class.getMethod(name, types);
-        Method inReference = Reference.class.getMethod(name, types);
-        long got = ((Number) inTested.invoke(tested, arguments)).longValue();
-        long due = ((Number) inReference.invoke(reference, arguments)).longValue();
-        CHECK.due(run + ", call " + calls.size() + ": " + call, got, due);
-        CHECK.due(run + ", call " + calls.size() + ": status after " + call, tested.status(), reference.status());
+        String call = run + ", call " + calls + ": " + Face.text(name, numbers);
+        CHECK.due(call, Face.answer(tested, name, numbers), Face.answer(reference, name, numbers));
+        CHECK.due("status() after " + call, tested.status(), reference.status());
+        callsOfTested += 2;
+        calls++;
+        if (!Face.isQuestion(name)) {
+            changes.add(new Made(name, numbers));
+        }
+    }
+
+    /** No object is promised more than 512 calls: another one takes its place, without the questions. */
+    private void startAnew() {
+        tested = new LevelFits();
+        callsOfTested = changes.size();
+        for (Made made : changes) {
+            Face.answer(tested, made.name(), made.numbers());
+        }
     }
 }
