@@ -1,7 +1,10 @@
 /** Counts answers against what is due and tells the outcome. */
 final class Check {
+    /** Far more than any test takes, so that a call that never ends is a failure and no endless wait. */
+    private static final long MOST_MILLISECONDS = 600_000;
+
     private final String title;
-    private String test;
+    private volatile String test;
     private int tests = 0;
     private int passed = 0;
     private int failed = 0;
@@ -9,6 +12,19 @@ final class Check {
     Check(String title) {
         this.title = title;
         test = title;
+        Thread watch = new Thread(this::endTooLate);
+        watch.setDaemon(true);
+        watch.start();
+    }
+
+    private void endTooLate() {
+        try {
+            Thread.sleep(MOST_MILLISECONDS);
+        } catch (InterruptedException e) {
+            return;
+        }
+        System.out.println(title + ": a call does not end; it is one of: " + test);
+        Runtime.getRuntime().halt(1);
     }
 
     /** A test of its own: what fails from now on is told under its name. */
